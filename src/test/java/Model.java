@@ -48,6 +48,8 @@ public final class Model {
     }
 
     static final class Fault extends Exception {
+        private static final long serialVersionUID = 1;
+
         final int kind;
         final int place;
 
