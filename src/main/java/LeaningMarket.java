@@ -790,8 +790,8 @@ public final class LeaningMarket {
 
         int criesWith(int thing) {
             int bits = 0;
-            for (int c = 0; c < cries; c++) {
-                if (cryPart(c, PART_A) == thing || cryPart(c, PART_B) == thing) {
+            for (int c = 0; c < cries && c < MAX_CRIES; c++) {
+                if (cryParts[PARTS * c + PART_A] == thing || cryParts[PARTS * c + PART_B] == thing) {
                     bits |= 1 << c;
                 }
             }
@@ -1474,9 +1474,11 @@ public final class LeaningMarket {
 
         void seekAmounts(State state, int things) {
             addUp(state);
-            Arrays.fill(matched, false);
-            for (int used = things; used > 0; used = used - 1 & things) {
-                for (int left = used; left > 0; left = left - 1 & used) {
+            for (int i = 0; i < matched.length; i++) {
+                matched[i] = false;
+            }
+            for (int used = things; used > 0; used = (used - 1) & things) {
+                for (int left = used; left > 0; left = (left - 1) & used) {
                     int amount = 2 * sumOf(left) - sumOf(used);
                     if (amount > 0 && amount < matched.length) {
                         matched[amount] = true;
@@ -1515,7 +1517,7 @@ public final class LeaningMarket {
         }
 
         private boolean makes(int used, int n) {
-            for (int left = used; left > 0; left = left - 1 & used) {
+            for (int left = used; left > 0; left = (left - 1) & used) {
                 if (2 * sumOf(left) - sumOf(used) == n) {
                     return true;
                 }
@@ -1528,7 +1530,7 @@ public final class LeaningMarket {
             apart = 0;
             pan = 0;
             int least = things & -things;
-            for (int laid = things; laid > 0; laid = laid - 1 & things) {
+            for (int laid = things; laid > 0; laid = (laid - 1) & things) {
                 int difference = Math.abs(2 * sumOf(laid) - sumOf(things));
                 // Pans come with falling bits: of alike ones the last is that of least bits.
                 if ((laid & least) != 0 && (pan == 0 || difference <= apart)) {

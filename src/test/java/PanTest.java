@@ -146,6 +146,9 @@ public final class PanTest {
                 Check.due("27: of " + row[0] + " to " + i, row[1 + i], () -> x.share(thing, 15, row[0]));
             }
         }
+        LeaningMarket heavy = Check.open("thing 60;thing 60;");
+        Check.due("27: all", 60, () -> heavy.share(0, 3, 120));
+        Check.due("27: one less each", 59, () -> heavy.share(0, 3, 119));
         Check.due("27: told ones alone", 7, () -> x.share(3, 9, 9));
         Check.due("27: it is none of them", 0, () -> x.share(1, 9, 9));
         Check.due("27: among none", 0, () -> x.share(1, 0, 9));

@@ -209,6 +209,10 @@ public final class TextsTest {
         wears("least[most[least[most[least[most[8,1],9],2],9],3],9]", 8);
         wears("(1)+(1)+(1)+(1)+(1)+(1)+(1)+least[1,1]", 8);
         wears("1+2*(1+2*(1+2*(1+2*(1-2*(1+2*(1-2*3))))))", 20);
+        // As many values wait at one time as can: three by each that is open.
+        wears(Check.times(6, "1+1*least[15,") + "1+1*5" + Check.times(6, "]"), 12);
+        wears("7" + Check.times(37, "+1-1"), 7);
+        wears("7" + Check.times(37, "*9/9"), 7);
         LeaningMarket x = new LeaningMarket();
         int[] fine = {1, 0, 0, 0, 0, 0, 0};
         int[] most = {60, 999, 10, 7, 300, 18, 9};
@@ -262,6 +266,8 @@ public final class TextsTest {
         law("((((((least", -7, 6);
         law("((((((mos", -9, 6);
         law("((((((1+most[1,2]))))))", -7, 8);
+        law(Check.times(6, "least[") + "most[", -7, 36);
+        law("weightz", -9, 0);
         law("least[1,most[1,(least[1,(most[1, least[1,2]])])]]", -7, 33);
     }
 

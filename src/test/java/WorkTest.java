@@ -118,8 +118,10 @@ public final class WorkTest {
         Check.due("9: no day more", 4, () -> x.told(2));
         Check.due("5: six are open", 64, () -> Check.work(x,
             "again 2[again 2[again 2[again 2[again 2[again 2[day;];];];];];];"));
+        Check.due("5: as many as can be told", 37, () -> Check.work(x, Check.times(37, "day;")));
+        Check.due("5: in a loop", 70, () -> Check.work(x, "again2[" + Check.times(35, "day;") + "];"));
         Check.due("5: empty", 0, () -> Check.work(x, ""));
-        Check.due("37: it is a work too", 4, () -> x.count(2));
+        Check.due("37: it is a work too", 6, () -> x.count(2));
     }
 
     private static void limits() {
@@ -158,6 +160,7 @@ public final class WorkTest {
         fault("day;days;", -9, 4);
         fault("day", -9, 3);
         fault("day;;", -9, 4);
+        fault("dayz;", -9, 0);
         fault("day;weigh 3 1 0 1;", -8, 10);
         fault("day;weigh 0 0 1 1;", -8, 12);
         fault("day;weigh 0 1 0 1;", -8, 14);
