@@ -1,3 +1,6 @@
+import java.io.IOException;
+import java.nio.file.Files;
+import java.nio.file.Path;
 import java.util.NoSuchElementException;
 
 /** What the tests share: due answers, texts put on the tape, refusals as answers. */
@@ -9,6 +12,8 @@ final class Check {
 
     private static int made = 0;
     private static int wrong = 0;
+    private static String sentence = "";
+    private static String document = "";
 
     interface Call {
         long answer();
@@ -22,8 +27,72 @@ final class Check {
         made++;
         if (got != want) {
             wrong++;
-            System.out.println(what + ": answered " + name(got) + ", due is " + name(want));
+            String where = sentence.isEmpty() ? "" : "[" + sentence + "] ";
+            System.out.println(where + what + ": answered " + name(got) + ", due is " + name(want));
         }
+    }
+
+    /** Names the piece of the document that is tested from here on; it must stand there, once. */
+    static void says(String piece) {
+        sentence = piece;
+        String text = document();
+        int at = text.indexOf(piece);
+        due("stands in the document", 1, () -> at >= 0 ? 1 : 0);
+        due("stands there once", -1, () -> text.indexOf(piece, at + 1));
+    }
+
+    /** The document, each run of blanks and line ends as one blank. Tests run in the project's root. */
+    static String document() {
+        if (document.isEmpty()) {
+            try {
+                document = Files.readString(Path.of("../shared/DOC.md")).replaceAll("\\s+", " ");
+            } catch (IOException e) {
+                System.out.println("no document: " + e);
+            }
+        }
+        return document;
+    }
+
+    /** All that can be asked of how an object stands, but for the tape, the fault and what was refused. */
+    static String standing(LeaningMarket x) {
+        StringBuilder s = new StringBuilder();
+        for (int what = 0; what <= 10; what++) {
+            s.append(x.told(what)).append(' ');
+        }
+        for (int thing = 0; thing < x.told(0); thing++) {
+            for (int what = 0; what <= 4; what++) {
+                s.append(x.thing(thing, what)).append(' ');
+            }
+        }
+        for (int cry = 0; cry < x.told(1); cry++) {
+            for (int what = 0; what <= 3; what++) {
+                s.append(x.cry(cry, what)).append(' ');
+            }
+        }
+        s.append(x.count(0)).append(' ').append(x.count(2)).append(' ').append(x.fits(0)).append(' ')
+            .append(x.fits(1)).append(' ').append(x.would(7, 9, 3, 2, 5, 11, 4));
+        return s.toString();
+    }
+
+    /** A call by which the object stands as it stood. */
+    static void stays(String what, LeaningMarket x, long want, Call call) {
+        String before = standing(x);
+        due(what, want, call);
+        String after = standing(x);
+        due(what + ": all stays: " + before + ", then " + after, 1, () -> before.equals(after) ? 1 : 0);
+    }
+
+    /** A call that throws: it is counted once, by its reason, and changes nothing else. */
+    static void refused(String what, LeaningMarket x, long want, Call call) {
+        int noSuch = x.status(0);
+        int illegal = x.status(1);
+        int tape = x.count(1);
+        int fault = x.fault();
+        stays(what, x, want, call);
+        due(what + ": counted as no such", noSuch + (want == NO_SUCH ? 1 : 0), () -> x.status(0));
+        due(what + ": counted as illegal", illegal + (want == ILLEGAL ? 1 : 0), () -> x.status(1));
+        due(what + ": the tape stays", tape, () -> x.count(1));
+        due(what + ": the fault stays", fault, x::fault);
     }
 
     static long outcome(Call call) {
