@@ -119,9 +119,8 @@ final class Check {
     static void put(LeaningMarket x, String text) {
         for (int from = 0; from < text.length(); from += 20) {
             int[] five = new int[5];
-            for (int i = 0; i < 20; i++) {
-                int sign = from + i < text.length() ? text.charAt(from + i) & 255 : 0;
-                five[i / 4] |= sign << 24 - 8 * (i % 4);
+            for (int i = 0; i < 20 && from + i < text.length(); i++) {
+                five[i / 4] |= (text.charAt(from + i) & 255) << 24 - 8 * (i % 4);
             }
             x.feed(five[0], five[1], five[2], five[3], five[4]);
         }

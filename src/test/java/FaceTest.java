@@ -1,12 +1,17 @@
+import java.io.IOException;
 import java.lang.reflect.Constructor;
 import java.lang.reflect.Field;
 import java.lang.reflect.Method;
 import java.lang.reflect.Modifier;
+import java.nio.file.Files;
+import java.nio.file.Path;
 import java.util.Arrays;
 import java.util.TreeSet;
+import java.util.regex.Matcher;
+import java.util.regex.Pattern;
 import java.util.stream.Collectors;
 
-/** The public face: just that of the document; and nothing of it is hidden behind a private name. */
+/** The public face: just that of the document, as it is written there; and nothing of it is hidden behind a private name. */
 public final class FaceTest {
     private static final String[] FACE = {
         "int feed int int int int int", "int market int", "int law int", "int work int", "int book int",
@@ -51,7 +56,30 @@ public final class FaceTest {
             Check.due("field " + f.getName(), f.getName().equals("NONE") ? 1 : 0, () -> open ? 1 : 0);
         }
         Check.due("NONE", -1, () -> LeaningMarket.NONE);
+        asWritten();
         Check.end();
+    }
+
+    /** Every line of the document's face stands in the source, with its throws, and nothing else there is public. */
+    private static void asWritten() throws IOException {
+        String document = Check.document();
+        String face = document.substring(document.indexOf("public final class LeaningMarket {"),
+            document.indexOf("## Terms"));
+        String source = Files.readString(Path.of("src/main/java/LeaningMarket.java")).replaceAll("\\s+", " ");
+        Matcher line = Pattern.compile("public [^;{]*[;{]").matcher(face);
+        int lines = 0;
+        while (line.find()) {
+            lines++;
+            String written = line.group();
+            String sought = written.contains(")") ? written.replace(";", " {") : written;
+            int at = source.indexOf(sought);
+            Check.due("stands in the source: " + sought, 1, () -> at >= 0 ? 1 : 0);
+            Check.due("stands there once: " + sought, -1, () -> source.indexOf(sought, at + 1));
+        }
+        int many = lines;
+        Check.due("the class, NONE, the constructor and the calls", FACE.length + 3, () -> many);
+        Check.due("all that is public", many, () -> Pattern.compile("\\b(public|protected)\\b(?! methods)")
+            .matcher(source).results().count());
     }
 
     private static String signature(Method m) {

@@ -1,12 +1,17 @@
 import java.io.IOException;
 import java.lang.reflect.Executable;
 import java.lang.reflect.Field;
+import java.lang.reflect.Method;
 import java.lang.reflect.Modifier;
 import java.nio.file.Files;
 import java.nio.file.Path;
 import java.util.ArrayList;
 import java.util.Arrays;
 import java.util.List;
+import java.util.Map;
+import java.util.Set;
+import java.util.TreeMap;
+import java.util.TreeSet;
 import java.util.regex.Matcher;
 import java.util.regex.Pattern;
 
@@ -31,6 +36,7 @@ public final class LanguageTest {
         all(code, "\\bArrays\\.(\\w+)", List.of("fill"));
         all(code, "\\bSystem\\.(\\w+)", List.of("arraycopy"));
         methodsAreShort(source);
+        callsAreShallow(code);
         shapes();
         Check.end();
     }
@@ -65,6 +71,40 @@ public final class LanguageTest {
                 Check.due("lines of " + lines[i].trim(), 1, () -> length <= 60 ? 1 : 0);
             }
         }
+    }
+
+    /** Methods of one name are taken as one: that can only make a chain of calls look longer. */
+    private static void callsAreShallow(String code) {
+        Map<String, Set<String>> calls = new TreeMap<>();
+        Pattern method = Pattern.compile("(?ms)^(    |        )[a-z][\\w\\[\\] ]* (\\w+)\\(([^()]*)\\)[\\w\\s,]*\\{$(.*?)^\\1\\}$");
+        Matcher m = method.matcher(code);
+        while (m.find()) {
+            Set<String> called = calls.computeIfAbsent(m.group(2), name -> new TreeSet<>());
+            Matcher call = Pattern.compile("\\b(\\w+)\\(").matcher(m.group(4));
+            while (call.find()) {
+                called.add(call.group(1));
+            }
+        }
+        Check.due("methods are found: " + calls.size(), 1, () -> calls.size() > 100 ? 1 : 0);
+        for (Method face : LeaningMarket.class.getDeclaredMethods()) {
+            String name = face.getName();
+            List<String> deepest = deepest(calls, name, List.of());
+            Check.due("calls at most eight deep: " + deepest, 1, () -> deepest.size() <= 8 && calls.containsKey(name) ? 1 : 0);
+        }
+    }
+
+    /** The longest chain of the class's own methods; one that stands open already is a recursion and ends it. */
+    private static List<String> deepest(Map<String, Set<String>> calls, String name, List<String> open) {
+        List<String> chain = new ArrayList<>(open);
+        chain.add(name);
+        List<String> best = chain;
+        for (String called : calls.getOrDefault(name, Set.of())) {
+            if (calls.containsKey(called) && !chain.contains(called)) {
+                List<String> deeper = deepest(calls, called, chain);
+                best = deeper.size() > best.size() ? deeper : best;
+            }
+        }
+        return best;
     }
 
     private static void shapes() {
